@@ -128,7 +128,7 @@ public final class DeckHands {
     }
 
     public int whole() {
-        if (now.steps == 0) {
+        if (!now.hasRoutine()) {
             return STATE;
         }
         if (now.done + now.steps > MOST_DONE) {
@@ -148,7 +148,7 @@ public final class DeckHands {
     }
 
     public int sort() {
-        if (now.steps == 0) {
+        if (!now.hasRoutine()) {
             return STATE;
         }
         int before = now.asAtFirst();
@@ -188,7 +188,7 @@ public final class DeckHands {
         if (what < 0 || what > 3) {
             return OUTSIDE;
         }
-        if (now.steps == 0) {
+        if (!now.hasRoutine()) {
             return STATE;
         }
         Way all = wayOfRoutine();
@@ -220,7 +220,7 @@ public final class DeckHands {
         if (what < 0 || what > 1) {
             return OUTSIDE;
         }
-        if (now.steps == 0 || homeCalls >= MOST_HOME_CALLS) {
+        if (!now.hasRoutine() || homeCalls >= MOST_HOME_CALLS) {
             return STATE;
         }
         homeCalls++;
@@ -273,7 +273,7 @@ public final class DeckHands {
         if (times < 1 || times > MOST_RUN_STEPS || seed < 0 || what < 0 || what > 2) {
             return OUTSIDE;
         }
-        if (now.steps == 0) {
+        if (!now.hasRoutine()) {
             return STATE;
         }
         int last = drawSteps(times, seed);
@@ -286,7 +286,7 @@ public final class DeckHands {
     // ---- what is told of all
 
     public int image() {
-        if (now.steps == 0) {
+        if (!now.hasRoutine()) {
             return STATE;
         }
         kept.copy(now);
@@ -359,7 +359,7 @@ public final class DeckHands {
     }
 
     private long digestOfRoutine(long start) {
-        if (now.steps == 0) {
+        if (!now.hasRoutine()) {
             return start;
         }
         long h = start;
@@ -708,6 +708,10 @@ public final class DeckHands {
             System.arraycopy(other.seenSteps, 0, seenSteps, 0, MOST_SEEN);
             System.arraycopy(other.seenFrom, 0, seenFrom, 0, MOST_SEEN);
             System.arraycopy(other.seenTo, 0, seenTo, 0, MOST_SEEN);
+        }
+
+        private boolean hasRoutine() {
+            return steps > 0;
         }
 
         private boolean hasStep(int step) {
